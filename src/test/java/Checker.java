@@ -7,13 +7,30 @@ final class Checker {
 
     private int looks = 0;
     private int wrong = 0;
+    private String topic = "";
+    private int looksAhead = 0;
+
+    /** Names what the answers that follow are about; a topic without any answer is a fault of the test. */
+    void about(String next) {
+        endTopic();
+        topic = next;
+        looksAhead = looks;
+    }
+
+    private void endTopic() {
+        if (!topic.isEmpty() && looks == looksAhead) {
+            due("answers about it", 0, 1);
+        }
+        topic = "";
+    }
 
     void due(String what, long got, long want) {
         looks++;
         if (got != want) {
             wrong++;
             if (wrong <= 50) {
-                System.out.println(what + " answered " + got + ", due is " + want);
+                String told = topic.isEmpty() ? what : "[" + topic + "] " + what;
+                System.out.println(told + " answered " + got + ", due is " + want);
             }
         }
     }
@@ -32,6 +49,7 @@ final class Checker {
 
     /** Ends the test: with exit code 1 if an answer was wrong. */
     void finish() {
+        endTopic();
         System.out.println(looks + " answers looked at, " + wrong + " wrong");
         if (wrong > 0) {
             System.exit(1);

@@ -1,8 +1,5 @@
 /** Every promise of the document by hand: ordinary inputs, edges, wrong inputs. */
-public final class PromiseTest {
-    private static final int[] OUT = {Integer.MIN_VALUE, -2000000001, -1, Integer.MAX_VALUE};
-    private static final Checker CHECK = new Checker();
-
+public final class PromiseTest extends ByHand {
     public static void main(String[] args) {
         newObject();
         arm();
@@ -43,68 +40,6 @@ public final class PromiseTest {
         read();
         readErrors();
         CHECK.finish();
-    }
-
-    // ---- helpers
-
-    private static void due(String what, long got, long want) {
-        CHECK.due(what, got, want);
-    }
-
-    /** An original with these points, each x, y, joined. */
-    private static int original(PantographArm x, int... points) {
-        int number = x.draw();
-        for (int i = 0; i < points.length; i += 3) {
-            due("point " + i / 3, x.point(number, points[i], points[i + 1], points[i + 2]), i / 3);
-        }
-        return number;
-    }
-
-    private static void typeAll(PantographArm x, String text) {
-        for (int i = 0; i < text.length(); i++) {
-            x.type(text.charAt(i));
-        }
-    }
-
-    private static PantographArm withText(String text) {
-        PantographArm x = new PantographArm();
-        typeAll(x, text);
-        return x;
-    }
-
-    private static long[] place(PantographArm x, int drawing, int point) {
-        return new long[] {x.pointInfo(drawing, point, 0), x.pointInfo(drawing, point, 1),
-            x.pointInfo(drawing, point, 2), x.pointInfo(drawing, point, 3)};
-    }
-
-    private static long[] placeAtOnce(PantographArm x, int drawing, int point) {
-        return new long[] {x.atOnce(drawing, point, 0), x.atOnce(drawing, point, 1),
-            x.atOnce(drawing, point, 2), x.atOnce(drawing, point, 3)};
-    }
-
-    private static long[] counts(PantographArm x) {
-        long[] counts = new long[18];
-        for (int i = 0; i < counts.length; i++) {
-            counts[i] = x.count(i);
-        }
-        return counts;
-    }
-
-    private static void fault(String text, int position, int reason) {
-        PantographArm x = withText(text);
-        due("position of the fault of '" + text + "'", x.fault(0), position);
-        due("reason of the fault of '" + text + "'", x.fault(1), reason);
-        due("read of '" + text + "'", x.read(), Checker.IMPOSSIBLE);
-        due("drawings after '" + text + "'", x.count(0), 0);
-        due("history after '" + text + "'", x.count(16), 0);
-    }
-
-    private static void noFault(String text, int points) {
-        PantographArm x = withText(text);
-        due("position of '" + text + "'", x.fault(0), Checker.MISSING);
-        due("reason of '" + text + "'", x.fault(1), Checker.MISSING);
-        due("read of '" + text + "'", x.read(), 0);
-        due("points of '" + text + "'", x.drawing(0, 0), points);
     }
 
     // ---- arm and board
@@ -985,11 +920,7 @@ public final class PromiseTest {
     }
 
     private static void faultOfManyPoints() {
-        StringBuilder many = new StringBuilder("1,1");
-        for (int i = 1; i < 20; i++) {
-            many.append(i % 2 == 0 ? '-' : ' ').append("1,1");
-        }
-        String twenty = many.toString();
+        String twenty = manyPoints(20);
         noFault(twenty + ".", 20);
         fault(twenty, 79, 2);
         fault(twenty + "-", 80, 2);
