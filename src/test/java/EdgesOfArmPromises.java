@@ -25,7 +25,8 @@ final class EdgesOfArmPromises extends Edges {
         one.draw();
         one.sharpen();
         one.type('1');
-        CHECK.dueAll("nothing of another one", counts(other), 0, 1, 1, 0, 0, 0, 0, 1000, 1000, 100, 0, 0, 10, 0, 0, 0, 0, 0);
+        CHECK.dueAll("nothing of another one", counts(other),
+            0, 1, 1, 0, 0, 0, 0, 1000, 1000, 100, 0, 0, 10, 0, 0, 0, 0, 0);
         due("no drawing", other.drawing(0, 0), Checker.INVALID);
         due("nothing to undo", other.undo(), Checker.IMPOSSIBLE);
     }

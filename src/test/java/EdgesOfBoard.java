@@ -90,7 +90,8 @@ final class EdgesOfBoard extends Edges {
 
     private static void bordersBelongToLines() {
         about("Board, pencil", "A line between two joined points of a copy is drawn");
-        PantographArm x = with(0, 0, 0, 10, 0, 1, 10, 10, 1, 0, 10, 1, 0, 0, 1, 11, 0, 1, 0, 11, 0, 0, 10, 1, 10, 10, 0);
+        PantographArm x = with(0, 0, 0, 10, 0, 1, 10, 10, 1, 0, 10, 1, 0, 0, 1,
+            11, 0, 1, 0, 11, 0, 0, 10, 1, 10, 10, 0);
         x.set(2, 10);
         x.set(3, 10);
         x.copy(0);

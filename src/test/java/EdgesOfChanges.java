@@ -180,8 +180,10 @@ final class EdgesOfChanges extends Edges {
         x.set(4, 9);
         x.set(2, 500);
         x.copy(0);
+        x.sharpen();
+        x.copy(0);
         long[] first = counts(x);
-        CHECK.dueAll("worn", first, 2, 1, 1, 0, 0, 0, 0, 500, 1000, 9, 30, 0, 10, 1, 30, 1, 4, 0);
+        CHECK.dueAll("worn", first, 3, 1, 1, 0, 0, 0, 0, 500, 1000, 9, 30, 0, 9, 2, 60, 2, 4, 0);
         x.sharpen();
         x.arm(7, 9);
         x.pivot(3, 4);
@@ -206,7 +208,9 @@ final class EdgesOfChanges extends Edges {
         x.pivot(4, 5);
         x.set(0, 2);
         x.set(1, 1);
-        chain(x, 5, 2, 1, 3);
+        chain(x, 5, 2);
+        x.set(0, 1);
+        chain(x, 1, 3);
         List<Long> before = trace(x, false);
         x.remove(2);
         x.remove(1);

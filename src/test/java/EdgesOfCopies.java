@@ -321,9 +321,10 @@ final class EdgesOfCopies extends Edges {
             int half = 500 * signs[kind][0];
             int five = 5 * signs[kind][1];
             CHECK.dueAll("shift", placeAtOnce(x, 1, 0), 1000 - half, 1, 10 - five, 1);
-            long[] second = {2 * (1000 - half) + (1000 - half) * signs[kind][0], 2 * (10 - five) + (10 - five) * signs[kind][1]};
-            due("shift of x of a copy of it", 2 * x.atOnce(2, 0, 0), second[0] * x.atOnce(2, 0, 1));
-            due("shift of y of a copy of it", 2 * x.atOnce(2, 0, 2), second[1] * x.atOnce(2, 0, 3));
+            long twiceX = 2 * (1000 - half) + (1000 - half) * signs[kind][0];
+            long twiceY = 2 * (10 - five) + (10 - five) * signs[kind][1];
+            due("shift of x of a copy of it", 2 * x.atOnce(2, 0, 0), twiceX * x.atOnce(2, 0, 1));
+            due("shift of y of a copy of it", 2 * x.atOnce(2, 0, 2), twiceY * x.atOnce(2, 0, 3));
         }
     }
 
@@ -341,7 +342,8 @@ final class EdgesOfCopies extends Edges {
 
     private static void atOnceAsBySteps() {
         about("Copies", "(Without play this is the same as by steps.)");
-        int[][] arms = {{20, 19, 1000, 0, 1}, {19, 20, 0, 1000, 2}, {7, 13, 999, 1, 1}, {13, 7, 500, 500, 0}, {1, 20, 3, 3, 2}};
+        int[][] arms = {{20, 19, 1000, 0, 1}, {19, 20, 0, 1000, 2}, {7, 13, 999, 1, 1}, {13, 7, 500, 500, 0},
+            {1, 20, 3, 3, 2}};
         PantographArm x = with(0, 0, 0, 1000, 1000, 1, 0, 1000, 1, 123, 456, 0);
         for (int i = 0; i < arms.length; i++) {
             x.arm(arms[i][0], arms[i][1]);

@@ -34,6 +34,7 @@ final class EdgesOfDrawingPromises extends Edges {
         atOnceWhat();
         atOnceReturns();
         alikeCounts();
+        alikeAtSamePlace();
         alikeOne();
         alikeOther();
         alikeReturns();
@@ -99,7 +100,7 @@ final class EdgesOfDrawingPromises extends Edges {
     }
 
     private static void pointJoined() {
-        about("Promise 8: point", "1 if it is joined to the point before it, otherwise 0 (for the first point it does not");
+        about("Promise 8: point", "otherwise 0 (for the first point it does not matter)");
         range(0, 1, joined -> with(1, 1, 0).point(0, 2, 2, joined));
         range(0, 1, joined -> with().point(0, 2, 2, joined));
         PantographArm x = with(1, 1, 0, 2, 2, 1, 3, 3, 0);
@@ -110,7 +111,8 @@ final class EdgesOfDrawingPromises extends Edges {
     }
 
     private static void pointReturns() {
-        about("Promise 8: point", "NOT_POSSIBLE if the drawing is a copy, or there are copies of it; LIMIT_REACHED if it has 20");
+        about("Promise 8: point",
+            "NOT_POSSIBLE if the drawing is a copy, or there are copies of it; LIMIT_REACHED if it has 20 points.");
         PantographArm x = with();
         for (int i = 0; i < 20; i++) {
             due("point", x.point(0, i, i, 0), i);
@@ -184,7 +186,7 @@ final class EdgesOfDrawingPromises extends Edges {
     }
 
     private static void copyReturns() {
-        about("Promise 10: copy", "Returns the number of the copy; INVALID_ARGUMENT; NOT_POSSIBLE if it cannot be copied.");
+        about("Promise 10: copy", "INVALID_ARGUMENT; NOT_POSSIBLE if it cannot be copied.");
         PantographArm x = with(0, 0, 0, 900, 0, 1);
         x.draw();
         due("no points", x.copy(1), Checker.IMPOSSIBLE);
@@ -244,7 +246,7 @@ final class EdgesOfDrawingPromises extends Edges {
     }
 
     private static void drawingWhat() {
-        about("Promise 12: drawing", "`what`: 0: its points; 1: the drawing of which it is a copy; 2: its original (itself");
+        about("Promise 12: drawing", "`what`: 0: its points; 1: the drawing of which it is a copy");
         PantographArm x = with(1, 1, 0);
         original(x, 10, 10, 0, 13, 14, 1, 13, 15, 0, 30, 40, 1, 200, 200, 1);
         x.set(0, 1);
@@ -293,7 +295,8 @@ final class EdgesOfDrawingPromises extends Edges {
         about("Promise 12: drawing", "9: points that are not on the board, as it is now");
         PantographArm x = with(10, 10, 0, 11, 10, 1, 10, 11, 0, 1000, 1000, 0);
         x.copy(0);
-        int[][] boards = {{1000, 1000, 0}, {999, 1000, 1}, {1000, 999, 1}, {11, 10, 2}, {10, 11, 2}, {11, 11, 1}, {10, 10, 3}};
+        int[][] boards = {{1000, 1000, 0}, {999, 1000, 1}, {1000, 999, 1}, {11, 10, 2}, {10, 11, 2}, {11, 11, 1},
+            {10, 10, 3}};
         for (int[] board : boards) {
             x.set(2, board[0]);
             x.set(3, board[1]);
@@ -332,7 +335,7 @@ final class EdgesOfDrawingPromises extends Edges {
     }
 
     private static void drawingReturns() {
-        about("Promise 12: drawing", "INVALID_ARGUMENT if an argument is out of range; NOT_FOUND for 1 if it is an original");
+        about("Promise 12: drawing", "NOT_FOUND for 1 if it is an original");
         range(0, 11, what -> with(1, 1, 0).drawing(0, what));
         due("1 of an original", with(1, 1, 0).drawing(0, 1), Checker.MISSING);
         due("1 of one without points", with().drawing(0, 1), Checker.MISSING);
@@ -385,7 +388,7 @@ final class EdgesOfDrawingPromises extends Edges {
     }
 
     private static void pointInfoWhat() {
-        about("Promise 14: pointInfo", "5: the width of the line from the point before it, 0 if it is not joined or the line was left");
+        about("Promise 14: pointInfo", "0 if it is not joined or the line was left out");
         PantographArm x = with(0, 0, 0, 30, 15, 1, 30, 60, 1, 20, 60, 0, 20, 20, 1);
         x.arm(1, 2);
         x.set(3, 20);
@@ -444,7 +447,8 @@ final class EdgesOfDrawingPromises extends Edges {
     private static void alikeCounts() {
         about("Promise 16: alike", "how many points of two drawings with the same number are at the same place");
         PantographArm x = with(1, 1, 0, 2, 2, 1, 3, 3, 0);
-        original(x, 1, 1, 0, 2, 3, 0, 4, 3, 0, 5, 5, 0);
+        // Its last point has none with the same number in the first drawing, not even at (0, 0).
+        original(x, 1, 1, 0, 2, 3, 0, 4, 3, 0, 0, 0, 0);
         original(x, 2, 2, 0, 3, 3, 0, 1, 1, 0);
         x.draw();
         due("itself", x.alike(0, 0), 3);
@@ -458,6 +462,22 @@ final class EdgesOfDrawingPromises extends Edges {
         due("thirds", x.alike(2, 3), 0);
         due("thirds three times", x.alike(2, 4), 3);
         due("of different parts", x.alike(4, 2), 3);
+    }
+
+    /** About the pivot (6, 9) a third: of these places it leaves both, x, y and neither as they are. */
+    private static void alikeAtSamePlace() {
+        about("Promise 16: alike", "are at the same place");
+        PantographArm x = with(6, 9, 0, 6, 12, 0, 9, 9, 0, 9, 12, 0);
+        x.pivot(6, 9);
+        chain(x, 1, 3);
+        due("both alone", x.alike(0, 1), 1);
+        due("the other way round", x.alike(1, 0), 1);
+        original(x, 6, 9, 0, 6, 10, 0, 7, 9, 0, 7, 10, 0);
+        due("where it came to", x.alike(1, 2), 4);
+        due("the other way round", x.alike(2, 1), 4);
+        original(x, 0, 0, 0, 6, 30, 0, 21, 9, 0, 21, 30, 0);
+        due("three times as far", x.alike(1, 3), 0);
+        due("the other way round", x.alike(3, 1), 0);
     }
 
     private static void alikeOne() {
@@ -482,7 +502,7 @@ final class EdgesOfDrawingPromises extends Edges {
     }
 
     private static void armForLeast() {
-        about("Promise 17: armFor", "the least a, then the least b, with a / b the ratio of one drawing divided by that of another");
+        about("Promise 17: armFor", "the least a, then the least b");
         PantographArm x = with(1, 1, 0);
         chain(x, 18, 12, 16, 8, 5, 15);
         due("1, not 20 / 20", x.armFor(0, 0), 101);

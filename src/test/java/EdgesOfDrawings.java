@@ -6,6 +6,7 @@ final class EdgesOfDrawings extends Edges {
         denominatorAboveZero();
         zeroIsZeroOverOne();
         atMostSixDrawings();
+        sixOfTheirOwn();
         numberedFromZero();
         originalOrCopy();
         atMostTwentyPoints();
@@ -105,6 +106,21 @@ final class EdgesOfDrawings extends Edges {
         due("six copied", copied.count(0), 6);
         drawn.remove(5);
         due("room again", drawn.draw(), 5);
+    }
+
+    private static void sixOfTheirOwn() {
+        about("Drawings", "There are at most 6 drawings, numbered");
+        for (int removed = 0; removed < 3; removed++) {
+            PantographArm x = threeDrawings();
+            x.remove(removed);
+            for (int i = 2; i < 6; i++) {
+                due("filled up again", original(x, 100 * i, i, 0, i, i, 1), i);
+            }
+            for (int i = 2; i < 6; i++) {
+                CHECK.dueAll("points of " + i, ofPoints(x, i, 0), 100 * i, i);
+            }
+            due("what was left ahead of them", x.drawing(0, 0) + x.drawing(1, 0), 2);
+        }
     }
 
     private static void numberedFromZero() {

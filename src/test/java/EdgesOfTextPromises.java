@@ -31,7 +31,7 @@ final class EdgesOfTextPromises extends Edges {
     }
 
     private static void undoReturns() {
-        about("Promise 18: undo", "Returns the number of states that are left in the history; NOT_POSSIBLE if it is empty.");
+        about("Promise 18: undo", "NOT_POSSIBLE if it is empty");
         PantographArm x = new PantographArm();
         due("of a new one", x.undo(), Checker.IMPOSSIBLE);
         for (int i = 0; i < 9; i++) {
