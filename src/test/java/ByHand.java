@@ -1,6 +1,7 @@
 /** What the tests by hand have in common: the checker, and how drawings and texts are made and told. */
 abstract class ByHand {
-    static final int[] OUT = {Integer.MIN_VALUE, -2000000001, -1, Integer.MAX_VALUE};
+    /** Out of every range; some would be in one if their upper bits were lost. */
+    static final int[] OUT = {Integer.MIN_VALUE, -2000000001, -65536, -1, 65536, 1 << 24, Integer.MAX_VALUE};
     static final Checker CHECK = new Checker();
 
     static void due(String what, long got, long want) {

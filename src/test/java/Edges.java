@@ -29,6 +29,9 @@ abstract class Edges extends ByHand {
         due("above the most", call.of(most + 1), Checker.INVALID);
         due("far below", call.of(Integer.MIN_VALUE), Checker.INVALID);
         due("far above", call.of(Integer.MAX_VALUE), Checker.INVALID);
+        // They would be taken if their upper bits were lost.
+        due("2^16 above the least", call.of(least + 65536), Checker.INVALID);
+        due("2^16 below the most", call.of(most - 65536), Checker.INVALID);
     }
 
     /** Where the least answer that is no error is far above the constants of the errors. */

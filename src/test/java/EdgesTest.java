@@ -29,6 +29,7 @@ public final class EdgesTest extends Edges {
         EdgesOfArmPromises.all();
         EdgesOfDrawingPromises.all();
         EdgesOfTextPromises.all();
+        EdgesOfGreatNumbers.all();
         CHECK.about("");
         for (String[] sentence : WITHOUT_BOUNDARY) {
             if (SENTENCES.isThere()) {
