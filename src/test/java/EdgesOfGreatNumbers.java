@@ -167,12 +167,19 @@ final class EdgesOfGreatNumbers extends Edges {
 
     private static void undoneAfterFiveSteps(int n) {
         about("Promise 18: undo", "Restores the latest state of the history");
-        PantographArm x = fiveSteps(n, TURNED, 1000, 999, 0, 1, 1000, 1);
+        PantographArm x = with(1000, 999, 0, 1, 1000, 0);
+        x.set(0, TURNED);
+        x.pivot(1000, 999);
+        x.arm(n, n);
+        for (int i = 0; i < 5; i++) {
+            due("copy", x.copy(i), i + 1);
+        }
         x.remove(5);
         due("undo", x.undo(), 3);
-        CHECK.dueAll("point 0", place(x, 5, 0), -1000, 1, -999, 1);
-        CHECK.dueAll("point 1", place(x, 5, 1), -1, 1, -1000, 1);
-        CHECK.dueAll("point 0 at once", placeAtOnce(x, 5, 0), -1000, 1, -999, 1);
+        CHECK.dueAll("point 0", place(x, 5, 0), 1000, 1, 999, 1);
+        CHECK.dueAll("point 1", place(x, 5, 1), 1999, 1, 998, 1);
+        CHECK.dueAll("point 0 at once", placeAtOnce(x, 5, 0), 1000, 1, 999, 1);
+        CHECK.dueAll("point 1 at once", placeAtOnce(x, 5, 1), 1999, 1, 998, 1);
         due("alike", x.alike(5, 3), 2);
         due("ratio", x.ratio(5, 0), 1);
     }

@@ -8,6 +8,8 @@ import java.nio.file.Path;
 import java.util.Arrays;
 import java.util.Set;
 import java.util.TreeSet;
+import java.util.regex.Matcher;
+import java.util.regex.Pattern;
 
 /** The public face of the document, and the rules of LANGUAGE.md that can be seen from outside. */
 public final class FaceTest {
@@ -20,6 +22,13 @@ public final class FaceTest {
     private static final String[] UNWANTED = {
         "import ", "package ", "->", "::", " throw ", "try ", "catch", "synchronized", "assert ", "finally",
         "System.", "Float.", "Double.", "protected ", "double ", "instanceof"};
+    /** Of the library only this is used, and rule 4 lists it. */
+    private static final Pattern LIBRARY = Pattern.compile("Math\\.(abs|min|max)\\(");
+    private static final Pattern OF_ANOTHER_CLASS = Pattern.compile("\\b[A-Z][a-z]\\w*\\.\\w+\\(?");
+    private static final Pattern MADE = Pattern.compile("\\bnew (\\w+)");
+    private static final Pattern METHOD = Pattern.compile("^ {4,8}(?! )[^=;]*\\) \\{$");
+    private static final int MOST_LINES = 60;
+    private static final int MOST_CLASSES = 12;
     private static final Checker CHECK = new Checker();
 
     public static void main(String[] args) throws IOException {
@@ -29,7 +38,11 @@ public final class FaceTest {
             inside(inner);
         }
         inside(PantographArm.class);
-        source();
+        yes("some twelve classes", PantographArm.class.getDeclaredClasses().length < MOST_CLASSES);
+        String source = source();
+        words(source);
+        library(source);
+        lengths(source);
         CHECK.finish();
     }
 
@@ -97,14 +110,53 @@ public final class FaceTest {
         }
     }
 
-    private static void source() throws IOException {
-        String source = Files.readString(Path.of("src/main/java/PantographArm.java"))
+    /** The program without its comments. */
+    private static String source() throws IOException {
+        return Files.readString(Path.of("src/main/java/PantographArm.java"))
             .replaceAll("(?s)/\\*.*?\\*/", " ").replaceAll("//[^\n]*", " ");
+    }
+
+    private static void words(String source) {
         for (String word : UNWANTED) {
             yes("no '" + word + "'", !source.contains(word));
         }
+        boolean isPlain = true;
         for (int i = 0; i < source.length(); i++) {
-            yes("plain signs", source.charAt(i) < 127);
+            isPlain = isPlain && source.charAt(i) < 127;
         }
+        yes("plain signs", isPlain);
+    }
+
+    private static void library(String source) {
+        Set<String> own = new TreeSet<>(Set.of("int", "long", "char", "boolean"));
+        for (Class<?> inner : PantographArm.class.getDeclaredClasses()) {
+            own.add(inner.getSimpleName());
+        }
+        Matcher used = OF_ANOTHER_CLASS.matcher(source);
+        while (used.find()) {
+            yes(used.group() + " is in the library of rule 4", LIBRARY.matcher(used.group()).matches());
+        }
+        Matcher made = MADE.matcher(source);
+        while (made.find()) {
+            yes(made.group() + " is of its own", own.contains(made.group(1)));
+        }
+    }
+
+    /** A method ends with the "}" that stands as far from the border as it begins. */
+    private static void lengths(String source) {
+        String[] lines = source.split("\n");
+        int methods = 0;
+        for (int i = 0; i < lines.length; i++) {
+            if (METHOD.matcher(lines[i]).find()) {
+                String end = lines[i].replaceAll("\\S.*", "") + "}";
+                int length = 1;
+                while (i + length < lines.length && !lines[i + length].equals(end)) {
+                    length++;
+                }
+                methods++;
+                yes(lines[i].trim() + " has some sixty lines at most", length < MOST_LINES);
+            }
+        }
+        yes("methods were found", methods > FACE.length);
     }
 }

@@ -4,7 +4,13 @@ import java.util.Random;
 public final class ModelTest {
     private static final int CALLS = 512;
     private static final int[] WRONG = {-1, 6, 20, 21, 1001, -7, Integer.MAX_VALUE, Integer.MIN_VALUE};
-    private static final int[][] CANCELLING = {{19, 20}, {17, 19}, {13, 17}, {11, 13}, {7, 11}, {1, 20}, {20, 1}};
+    private static final int[][] CANCELLING = {{19, 20}, {17, 19}, {13, 17}, {11, 13}, {7, 11}, {1, 20}, {20, 1},
+        {20, 20}, {19, 19}};
+    /** One behind the other they make places with numerators that an int would not hold. */
+    private static final int[][] FAR = {{20, 1}, {20, 1}, {20, 1}, {19, 20}, {19, 20}};
+    private static final int LARGE = 0;
+    private static final int SMALL = 1;
+    private static final int DISTANT = 3;
     private static final Checker CHECK = new Checker();
 
     private final Random random;
@@ -16,7 +22,7 @@ public final class ModelTest {
 
     private ModelTest(int seed) {
         random = new Random(seed);
-        wildness = seed % 3;
+        wildness = seed % 4;
     }
 
     public static void main(String[] args) {
@@ -27,6 +33,9 @@ public final class ModelTest {
     }
 
     private void run(int seed) {
+        if (wildness == DISTANT) {
+            makeDistantCopies();
+        }
         while (made < CALLS && !CHECK.hasFailed()) {
             int kind = random.nextInt(100);
             if (kind < 55) {
@@ -86,7 +95,7 @@ public final class ModelTest {
     }
 
     private void changePivot() {
-        int most = wildness == 0 ? 1000 : 30;
+        int most = wildness == LARGE || wildness == DISTANT ? 1000 : 30;
         int x = number(0, most);
         int y = number(0, most);
         due("pivot(" + x + ", " + y + ")", arm.pivot(x, y), model.pivot(x, y));
@@ -102,7 +111,7 @@ public final class ModelTest {
     }
 
     private void addPoint() {
-        int most = wildness == 1 ? 60 : 1000;
+        int most = wildness == SMALL ? 60 : 1000;
         int drawing = random.nextInt(4) == 0 ? drawingNumber() : latestOriginal();
         for (int i = random.nextInt(5); i >= 0 && made < CALLS; i--) {
             int x = number(0, most);
@@ -127,7 +136,33 @@ public final class ModelTest {
         if (random.nextBoolean()) {
             due("why(" + drawing + ")", arm.why(drawing), model.why(drawing));
         }
-        due("copy(" + drawing + ")", arm.copy(drawing), model.copy(drawing));
+        int copy = model.copy(drawing);
+        due("copy(" + drawing + ")", arm.copy(drawing), copy);
+        if (copy >= 0 && random.nextInt(3) == 0) {
+            lookAtPlace(copy, random.nextInt(model.drawing(copy, 0)));
+        }
+    }
+
+    private void makeDistantCopies() {
+        due("draw()", arm.draw(), model.draw());
+        addPoint();
+        for (int i = 0; i < FAR.length; i++) {
+            int kind = random.nextInt(3);
+            int[] pair = FAR[i];
+            due("set(0, " + kind + ")", arm.set(0, kind), model.set(0, kind));
+            changePivot();
+            due("arm(" + pair[0] + ", " + pair[1] + ")", arm.arm(pair[0], pair[1]), model.arm(pair[0], pair[1]));
+            due("copy(" + i + ")", arm.copy(i), model.copy(i));
+            lookAtPlace(i + 1, 0);
+        }
+    }
+
+    private void lookAtPlace(int drawing, int point) {
+        for (int what = 0; what < 4 && made < CALLS - 1; what++) {
+            String told = "(" + drawing + ", " + point + ", " + what + ")";
+            due("pointInfo" + told, arm.pointInfo(drawing, point, what), model.pointInfo(drawing, point, what));
+            due("atOnce" + told, arm.atOnce(drawing, point, what), model.atOnce(drawing, point, what));
+        }
     }
 
     private void takeAway() {
