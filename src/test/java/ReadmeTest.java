@@ -10,7 +10,6 @@ import java.util.ArrayList;
 import java.util.List;
 import java.util.regex.Matcher;
 import java.util.regex.Pattern;
-import javax.tools.ToolProvider;
 
 /**
  * What README.md says is so: each of its examples compiles with the class, every call in it that is told with
@@ -78,8 +77,8 @@ public final class ReadmeTest {
         try {
             Path source = folder.resolve(name + ".java");
             Files.writeString(source, program(name, example));
-            int exit = ToolProvider.getSystemJavaCompiler().run(null, null, null, "-proc:none",
-                "-cp", System.getProperty("java.class.path"), "-d", folder.toString(), source.toString());
+            int exit = new ProcessBuilder("javac", "-cp", System.getProperty("java.class.path"),
+                "-d", folder.toString(), source.toString()).inheritIO().start().waitFor();
             CHECK.due("javac of\n" + example, exit, 0);
             if (exit == 0) {
                 try (URLClassLoader loader = new URLClassLoader(new URL[] {folder.toUri().toURL()})) {
